@@ -495,21 +495,22 @@ public final class CopierJobs {
             }
             start = place;
             value = 0;
+            int c = at(bytes, place);
             if (place >= length) {
                 token = AT_END;
-            } else if (isLetter(place)) {
+            } else if (isLetter(c)) {
                 readLetters();
-            } else if (isDigit(place)) {
+            } else if (isDigit(c)) {
                 readNumber();
             } else {
-                token = at(bytes, place) == ';' ? STOP : WRONG;
+                token = c == ';' ? STOP : WRONG;
                 place++;
             }
         }
 
         /** The value is the letter, or 0 for several: no item begins with those. */
         private void readLetters() {
-            while (place < length && isLetter(place)) {
+            while (place < length && isLetter(at(bytes, place))) {
                 place++;
             }
             token = LETTERS;
@@ -517,7 +518,7 @@ public final class CopierJobs {
         }
 
         private void readNumber() {
-            while (place < length && isDigit(place)) {
+            while (place < length && isDigit(at(bytes, place))) {
                 // Held down, so that no row of figures runs over.
                 value = Math.min(NUMBER_MOST + 1, value * 10 + at(bytes, place) - '0');
                 place++;
@@ -526,12 +527,12 @@ public final class CopierJobs {
             token = zeroAhead || value > NUMBER_MOST ? WRONG : NUMBER;
         }
 
-        private boolean isLetter(int i) {
-            return i < length && at(bytes, i) >= 'a' && at(bytes, i) <= 'z';
+        private static boolean isLetter(int c) {
+            return c >= 'a' && c <= 'z';
         }
 
-        private boolean isDigit(int i) {
-            return i < length && at(bytes, i) >= '0' && at(bytes, i) <= '9';
+        private static boolean isDigit(int c) {
+            return c >= '0' && c <= '9';
         }
     }
 
@@ -650,6 +651,9 @@ public final class CopierJobs {
         private boolean both;
         private boolean sorted;
         private int tray;
+        private int leaves = 1;
+        /** Sheets come in runs: the leaves of a copy, or the copies of a leaf. */
+        private int run = 1;
 
         void tell(int[] numbers) {
             pages = at(numbers, 0);
@@ -657,14 +661,12 @@ public final class CopierJobs {
             both = at(numbers, 2) == 1;
             sorted = at(numbers, 3) == 1;
             tray = at(numbers, 4);
-        }
-
-        int leaves() {
-            return both ? (pages + 1) / 2 : pages;
+            leaves = both ? (pages + 1) / 2 : pages;
+            run = sorted ? leaves : copies;
         }
 
         int all() {
-            return leaves() * copies;
+            return leaves * copies;
         }
 
         boolean hasSheet(int k) {
@@ -675,27 +677,18 @@ public final class CopierJobs {
             return page >= 1 && page <= pages;
         }
 
-        /** Sheets come in runs: the leaves of a copy, or the copies of a leaf. */
-        private int runLength() {
-            return sorted ? leaves() : copies;
-        }
-
-        private int runOf(int k) {
-            int run = runLength();
-            return run > 0 ? k / run : 0;
-        }
-
-        private int placeInRun(int k) {
-            int run = runLength();
-            return run > 0 ? k % run : 0;
-        }
-
         int copyOf(int k) {
-            return sorted ? runOf(k) : placeInRun(k);
+            if (run <= 0) {
+                return 0;
+            }
+            return sorted ? k / run : k % run;
         }
 
         int leafOf(int k) {
-            return sorted ? placeInRun(k) : runOf(k);
+            if (run <= 0) {
+                return 0;
+            }
+            return sorted ? k % run : k / run;
         }
 
         int frontOf(int k) {
@@ -703,7 +696,7 @@ public final class CopierJobs {
         }
 
         int backOf(int k) {
-            int behind = frontOf(k) + 1;
+            int behind = 2 * leafOf(k) + 2;
             return both && behind <= pages ? behind : 0;
         }
 
@@ -713,7 +706,7 @@ public final class CopierJobs {
 
         int sheetWith(int page, int copy) {
             int leaf = both ? (page - 1) / 2 : page - 1;
-            return sorted ? copy * leaves() + leaf : leaf * copies + copy;
+            return sorted ? copy * leaves + leaf : leaf * copies + copy;
         }
     }
 

@@ -5,6 +5,7 @@ public final class TextTest {
     typeAndClear();
     officesThatStand();
     faults();
+    bytesOfAnEarlierText();
     nothingChangesByAFault();
     readAnew();
     Office.end("TextTest");
@@ -54,6 +55,8 @@ public final class TextTest {
     reads("x;", -10);
     reads(" tt 1 2 3;", -11);
     reads("kk5;", -10);
+    reads("ta1 2 3;", -10);
+    reads("kz5;", -10);
     reads("t1 2 3;k1;t", -20);
     reads("k1;b1;k", -16);
     reads("b1; b1;", -14);
@@ -111,6 +114,19 @@ public final class TextTest {
     reads("k 5" + " ".repeat(117), -130);
   }
 
+  private static void bytesOfAnEarlierText() {
+    shortBehindLong("kk5;", "k", -11);
+    shortBehindLong("k555;", "k5", -12);
+    shortBehindLong("k5   ;", "k5", -12);
+    shortBehindLong("k5;b7;", "k5;", 1);
+  }
+
+  private static void shortBehindLong(String longer, String shorter, int want) {
+    CopierJobs x = new CopierJobs();
+    Office.type(x, longer);
+    Office.due("office() of '" + shorter + "' behind '" + longer + "'", Office.read(x, shorter), want);
+  }
+
   private static void nothingChangesByAFault() {
     CopierJobs x = Office.of("t5 5 5;k50;b2;j2 2 0 1 0;");
     x.ticks(3);
@@ -135,6 +151,10 @@ public final class TextTest {
         + " trays 20 0 20 0 20 0 bins 0 0 0 0 soon 3 1 known 0 seen 0 1 -9 text 0 trace 1");
     Office.due("back(0) anew", x.back(0), -2);
     Office.due("undo() anew", x.undo(), -2);
+    x = Office.of("j2 1 1 0 0;");
+    x.ticks(1);
+    Office.due("office(), a sheet half done", Office.read(x, "j2 1 1 0 0;"), 1);
+    Office.due("nothing half done anew", x.now(4), 0);
     Office.due("office() of nothing", x.office(), 0);
     Office.due("count(1) then", x.count(1), 0);
   }
