@@ -66,6 +66,65 @@ final class Office {
     return moving(x) + " known " + x.count(3);
   }
 
+  /** An office that can be made again and again, each time in the same state. */
+  interface Scene {
+    CopierJobs make();
+  }
+
+  interface Call {
+    int on(CopierJobs x);
+  }
+
+  /** A call that is refused: its answer, and that nothing has changed by it, what can't be seen at once too. */
+  static void refused(String call, Scene scene, Call c, int want) {
+    due(call, c.on(scene.make()), want);
+    same("all behind " + call, whole(scene, c), whole(scene, x -> 0));
+  }
+
+  /** All that an object holds. What is asked changes it, so that each part is asked of an object of its own. */
+  static String whole(Scene scene, Call c) {
+    return all(behind(scene, c)) + "\n undo" + undone(behind(scene, c)) + "\n image 0" + image(behind(scene, c), 0)
+        + "\n image 1" + image(behind(scene, c), 1) + "\n text" + told(behind(scene, c)) + "\n forget"
+        + forgotten(behind(scene, c));
+  }
+
+  private static CopierJobs behind(Scene scene, Call c) {
+    CopierJobs x = scene.make();
+    c.on(x);
+    return x;
+  }
+
+  /** As moving(), in fewer calls: an object is used for 512 at most. */
+  static String brief(CopierJobs x) {
+    StringBuilder s = new StringBuilder();
+    for (int what = 0; what <= 5; what++) s.append(' ').append(x.now(what));
+    for (int j = 0; j < x.count(1); j++) {
+      s.append(" job").append(j);
+      for (int what = 6; what <= 8; what++) s.append(' ').append(x.job(j, what));
+    }
+    for (int t = 0; t < 3; t++) s.append(" tray ").append(x.tray(t, 0));
+    for (int b = 0; b < x.count(0); b++) s.append(" bin ").append(x.bin(b));
+    return s.toString();
+  }
+
+  static String undone(CopierJobs x) {
+    StringBuilder s = new StringBuilder();
+    for (int i = 0; i <= 10; i++) s.append(' ').append(x.undo()).append(':').append(brief(x));
+    return s.toString();
+  }
+
+  private static String image(CopierJobs x, int image) {
+    return " " + x.back(image) + ": " + brief(x) + undone(x);
+  }
+
+  private static String told(CopierJobs x) {
+    return " " + x.office() + ": " + all(x);
+  }
+
+  private static String forgotten(CopierJobs x) {
+    return " " + x.forget() + " clear " + x.clear() + ": " + all(x);
+  }
+
   static void end(String name) {
     System.out.println(name + ": " + asked + " answers, " + wrong + " wrong");
     if (asked == 0 || wrong != 0) System.exit(1);
