@@ -181,7 +181,13 @@ public final class SeenBoundsTest {
     // 72 SHEETS are alike, then PAGE 9 comes or nothing.
     Office.due("LOOK far, unsorted", Office.of("j9 9 0 0 0;j8 9 0 0 0;").look(), 729);
     Office.due("LOOK far, SORTED", Office.of("j9 9 0 1 0;j9 8 0 1 0;").look(), 721);
-    CopierJobs x = Office.of("j9 9 0 0 0;j8 9 0 0 0;");
+    // Up to SHEET 79 three are alike or only one has the PAGE; SHEET 80 has PAGE 9 in both that have it: two and two.
+    CopierJobs x = Office.of("j9 9 0 0 0;j9 9 0 1 0;j8 9 0 0 0;j8 9 0 0 0;");
+    Office.due("LOOK at the last SHEET", x.look(), 809);
+    x.sees(80, 9, 1);
+    Office.due("WHOSE by the last SHEET", x.whose(), 3);
+    Office.due("LOOK then", x.look(), 11);
+    x = Office.of("j9 9 0 0 0;j8 9 0 0 0;");
     x.sees(80, 9, 0);
     Office.due("WHOSE by SHEET 80", x.whose(), 2);
   }
