@@ -286,18 +286,11 @@ public final class CopierJobs {
     }
 
     public int whose() {
-        int bits = 0;
-        for (int j = 0; j < plan.jobCount; j++) {
-            Job job = plan.jobAt(j);
-            if (job != null && seen.fits(job)) {
-                bits |= 1 << j;
-            }
-        }
-        return bits;
+        return seen.fittingOf(plan);
     }
 
     public int look() {
-        int bits = whose();
+        int bits = seen.fittingOf(plan);
         int all = Integer.bitCount(bits);
         int least = all;
         int best = NONE;
@@ -963,7 +956,19 @@ public final class CopierJobs {
             return had;
         }
 
-        boolean fits(Job job) {
+        /** The jobs, as bits, by which all that was seen is so. */
+        int fittingOf(Plan plan) {
+            int bits = 0;
+            for (int j = 0; j < plan.jobCount; j++) {
+                Job job = plan.jobAt(j);
+                if (job != null && fits(job)) {
+                    bits |= 1 << j;
+                }
+            }
+            return bits;
+        }
+
+        private boolean fits(Job job) {
             for (int i = 0; i < size; i++) {
                 int k = at(sheets, i);
                 boolean has = job.hasSheet(k) && job.frontOf(k) == at(pages, i);

@@ -389,7 +389,9 @@ public final class DoneBoundsTest {
       Office.due("known behind call " + i, x.count(3), 4);
       Office.due("undo() of call " + i, x.undo(), 3);
       Office.same("all as ahead of call " + i, Office.all(x), Office.all(twin));
-      Office.same("what else may be UNDONE, call " + i, Office.undone(x), Office.undone(twin));
+      Office.Call call = six[i];
+      Office.Scene then = () -> Office.behind(() -> Office.behind(() -> Scenes.make("half done"), call), CopierJobs::undo);
+      Office.same("what else may be UNDONE, call " + i, Office.undone(then), Office.undone(() -> Scenes.make("half done")));
     }
   }
 

@@ -148,20 +148,28 @@ public final class DoneTest {
 
   /** Each call that may be undone, one behind the other; then all back, but for the two oldest of twelve. */
   private static void undone() {
-    CopierJobs x = Office.of("t9 9 9;k50;b2;j3 2 1 1 0;j2 2 0 0 1;j9 1 0 1 2;");
-    Office.due("undo() of none", x.undo(), -2);
-    String[] ahead = new String[12];
+    Office.due("undo() of none", behindCalls(0).undo(), -2);
     for (int i = 0; i < 12; i++) {
-      ahead[i] = Office.moving(x);
+      CopierJobs x = behindCalls(i);
       Office.due("call " + i, call(x, i) >= 0 ? 1 : 0, 1);
       Office.due("known behind call " + i, x.count(3), Math.min(10, i + 1));
     }
     for (int i = 11; i >= 2; i--) {
+      CopierJobs x = behindCalls(12);
+      for (int later = 11; later > i; later--) x.undo();
       Office.due("undo() of call " + i, x.undo(), i - 2);
-      Office.same("all ahead of call " + i, Office.moving(x), ahead[i]);
+      Office.same("all ahead of call " + i, Office.moving(x), Office.moving(behindCalls(i)));
     }
+    CopierJobs x = behindCalls(12);
+    for (int i = 0; i < 10; i++) x.undo();
     Office.due("undo() of a lost one", x.undo(), -2);
-    Office.same("all behind that", Office.moving(x), ahead[2]);
+    Office.same("all behind that", Office.moving(x), Office.moving(behindCalls(2)));
+  }
+
+  private static CopierJobs behindCalls(int n) {
+    CopierJobs x = Office.of("t9 9 9;k50;b2;j3 2 1 1 0;j2 2 0 0 1;j9 1 0 1 2;");
+    for (int i = 0; i < n; i++) call(x, i);
+    return x;
   }
 
   private static int call(CopierJobs x, int i) {

@@ -139,12 +139,13 @@ public final class KindsBoundsTest {
         x -> x.fills(1, 3), x -> x.fills(2, 1), x -> x.toner(1), x -> x.empties(0), x -> x.undo()};
     for (int image = 0; image < 2; image++) {
       for (int i = 0; i < calls.length; i++) {
-        CopierJobs x = Scenes.make("half done"), twin = Scenes.make("half done");
+        CopierJobs x = Scenes.make("half done");
         x.keep(image);
         Office.due("call " + i + " is not refused", calls[i].on(x) >= 0 ? 1 : 0, 1);
         Office.due("back(" + image + ") behind call " + i, x.back(image), 3);
-        Office.same("all behind it, call " + i, Office.all(x), Office.all(twin));
-        Office.same("what may be UNDONE, call " + i, Office.undone(x), Office.undone(twin));
+        Office.same("all behind it, call " + i, Office.all(x), Office.all(Scenes.make("half done")));
+        Office.Scene then = forthAndBack(calls[i], image);
+        Office.same("what may be UNDONE, call " + i, Office.undone(then), Office.undone(() -> Scenes.make("half done")));
       }
     }
     // ENDS: what ended is not ended then, and the other way.
@@ -156,6 +157,16 @@ public final class KindsBoundsTest {
     Office.due("not ended", x.job(0, 8), -9);
     x.back(1);
     Office.due("ended", x.job(0, 8), 1);
+  }
+
+  private static Office.Scene forthAndBack(Office.Call call, int image) {
+    return () -> {
+      CopierJobs x = Scenes.make("half done");
+      x.keep(image);
+      call.on(x);
+      x.back(image);
+      return x;
+    };
   }
 
   /** 'nothing else' */

@@ -83,12 +83,12 @@ final class Office {
 
   /** All that an object holds. What is asked changes it, so that each part is asked of an object of its own. */
   static String whole(Scene scene, Call c) {
-    return all(behind(scene, c)) + "\n undo" + undone(behind(scene, c)) + "\n image 0" + image(behind(scene, c), 0)
-        + "\n image 1" + image(behind(scene, c), 1) + "\n text" + told(behind(scene, c)) + "\n forget"
-        + forgotten(behind(scene, c));
+    Scene then = () -> behind(scene, c);
+    return all(then.make()) + "\n undo" + undone(then) + "\n image 0" + image(then, 0) + "\n image 1" + image(then, 1)
+        + "\n text" + told(then.make()) + "\n forget" + forgotten(then.make());
   }
 
-  private static CopierJobs behind(Scene scene, Call c) {
+  static CopierJobs behind(Scene scene, Call c) {
     CopierJobs x = scene.make();
     c.on(x);
     return x;
@@ -107,14 +107,21 @@ final class Office {
     return s.toString();
   }
 
-  static String undone(CopierJobs x) {
+  /** How it is behind one undo(), two, up to eleven: each of an object of its own, since 512 calls are all. */
+  static String undone(Scene scene) {
     StringBuilder s = new StringBuilder();
-    for (int i = 0; i <= 10; i++) s.append(' ').append(x.undo()).append(':').append(brief(x));
+    for (int times = 1; times <= 11; times++) {
+      CopierJobs x = scene.make();
+      int answer = 0;
+      for (int i = 0; i < times; i++) answer = x.undo();
+      s.append(' ').append(answer).append(':').append(brief(x));
+    }
     return s.toString();
   }
 
-  private static String image(CopierJobs x, int image) {
-    return " " + x.back(image) + ": " + brief(x) + undone(x);
+  private static String image(Scene scene, int image) {
+    CopierJobs x = scene.make();
+    return " " + x.back(image) + ": " + brief(x) + undone(() -> behind(scene, y -> y.back(image)));
   }
 
   private static String told(CopierJobs x) {

@@ -33,25 +33,25 @@ public final class ReckonTest {
       CopierJobs x = Office.of(jobs(r, 1 + r.nextInt(6), 3));
       x.ticks(1 + r.nextInt(20));
       if (r.nextInt(3) == 0) x.breaks(r.nextInt(6));
+      int[] left = new int[x.count(1)];
+      for (int j = 0; j < left.length; j++) left[j] = x.job(j, 10);
       long[] best = {Long.MAX_VALUE, 0};
-      tryOrders(x, 0, 0, 0, 0, best);
+      tryOrders(left, x.now(5), 0, 0, 0, 0, best);
       Office.due("soon(0)", x.soon(0), x.now(5) == 0 ? 0 : best[0]);
       Office.due("soon(1)", x.soon(1), x.now(5) == 0 ? 0 : best[1]);
     }
   }
 
-  private static void tryOrders(CopierJobs x, int picked, int behind, int sum, int order, long[] best) {
-    if (Integer.bitCount(picked) == x.now(5)) {
-      if (sum < best[0]) {
-        best[0] = sum;
-        best[1] = order;
-      }
-      return;
+  /** A JOB of which nothing is LEFT is not in THE QUEUE. */
+  private static void tryOrders(int[] left, int more, int picked, int behind, int sum, int order, long[] best) {
+    if (more == 0 && sum < best[0]) {
+      best[0] = sum;
+      best[1] = order;
     }
-    for (int j = 0; j < x.count(1); j++) {
-      if ((picked >> j & 1) != 0 || x.job(j, 7) == CopierJobs.NONE) continue;
-      int end = behind + x.job(j, 10);
-      tryOrders(x, picked | 1 << j, end, sum + end, order * 10 + j + 1, best);
+    for (int j = 0; j < left.length; j++) {
+      if ((picked >> j & 1) != 0 || left[j] == 0) continue;
+      int end = behind + left[j];
+      tryOrders(left, more - 1, picked | 1 << j, end, sum + end, order * 10 + j + 1, best);
     }
   }
 
@@ -84,23 +84,30 @@ public final class ReckonTest {
     for (int code = 0; code < 4 * 4 * 4; code++) {
       int pages = code % 4 + 1, copies = code / 4 % 4 + 1;
       CopierJobs x = Office.of("j" + pages + " " + copies + " " + code / 16 % 2 + " " + code / 32 + " 0;");
+      int all = x.job(0, 5);
+      int[] on = sheetsOfPages(x, all);
       for (int n = 1; n <= 4; n++) {
-        if (n > x.job(0, 5)) {
+        if (n > all) {
           Office.due("odds, too few", x.odds(0, n, 1, 0), -2);
           continue;
         }
-        for (int page = 1; page <= pages; page++) setsWith(x, n, page);
+        for (int page = 1; page <= pages; page++) setsWith(x, n, page, on[page], all);
       }
     }
   }
 
-  private static void setsWith(CopierJobs x, int n, int page) {
-    int on = 0;
-    for (int k = 0; k < x.job(0, 5); k++) {
-      if (x.sheet(0, k, 1) == page || x.sheet(0, k, 2) == page) on |= 1 << k;
+  private static int[] sheetsOfPages(CopierJobs x, int all) {
+    int[] on = new int[10];
+    for (int k = 0; k < all; k++) {
+      on[x.sheet(0, k, 1)] |= 1 << k;
+      on[x.sheet(0, k, 2)] |= 1 << k;
     }
+    return on;
+  }
+
+  private static void setsWith(CopierJobs x, int n, int page, int on, int all) {
     int sets = 0, having = 0;
-    for (int set = 0; set < 1 << x.job(0, 5); set++) {
+    for (int set = 0; set < 1 << all; set++) {
       if (Integer.bitCount(set) != n) continue;
       sets++;
       if ((set & on) != 0) having++;

@@ -72,11 +72,12 @@ public final class SeenTest {
         s.append(' ').append(r.nextInt(2)).append(" 0;");
       }
       CopierJobs x = Office.of(s.toString());
+      int[][] fronts = fronts(s.toString(), x.count(1));
       int known = 0;
       int[][] seen = new int[6][];
       do {
-        Office.due("whose()", x.whose(), whose(x, seen, known));
-        Office.due("look()", x.look(), look(x, x.whose()));
+        Office.due("whose()", x.whose(), whose(fronts, seen, known));
+        Office.due("look()", x.look(), look(fronts, x.whose()));
         if (known == 6) break;
         seen[known] = new int[] {r.nextInt(6), 1 + r.nextInt(3), r.nextInt(2)};
         x.sees(seen[known][0], seen[known][1], seen[known][2]);
@@ -85,26 +86,32 @@ public final class SeenTest {
     }
   }
 
-  private static boolean has(CopierJobs x, int j, int k, int page) {
-    return x.sheet(j, k, 1) == page;
+  /** Of each JOB and SHEET 0 .. 80 the PAGE in FRONT; -1, where there is no such SHEET. */
+  private static int[][] fronts(String text, int jobs) {
+    int[][] fronts = new int[jobs][81];
+    for (int j = 0; j < jobs; j++) {
+      CopierJobs x = Office.of(text);
+      for (int k = 0; k <= 80; k++) fronts[j][k] = x.sheet(j, k, 1);
+    }
+    return fronts;
   }
 
-  private static int whose(CopierJobs x, int[][] seen, int known) {
+  private static int whose(int[][] fronts, int[][] seen, int known) {
     int bits = 0;
-    for (int j = 0; j < x.count(1); j++) {
+    for (int j = 0; j < fronts.length; j++) {
       boolean fits = true;
-      for (int i = 0; i < known; i++) fits &= has(x, j, seen[i][0], seen[i][1]) == (seen[i][2] == 1);
+      for (int i = 0; i < known; i++) fits &= (fronts[j][seen[i][0]] == seen[i][1]) == (seen[i][2] == 1);
       if (fits) bits |= 1 << j;
     }
     return bits;
   }
 
-  private static int look(CopierJobs x, int bits) {
+  private static int look(int[][] fronts, int bits) {
     int all = Integer.bitCount(bits), least = 99, best = -9;
     for (int number = 1; number <= 809; number++) {
       if (number % 10 == 0) continue;
       int there = 0;
-      for (int j = 0; j < 6; j++) if ((bits >> j & 1) != 0 && has(x, j, number / 10, number % 10)) there++;
+      for (int j = 0; j < fronts.length; j++) if ((bits >> j & 1) != 0 && fronts[j][number / 10] == number % 10) there++;
       if (there == 0 || there == all || Math.max(there, all - there) >= least) continue;
       least = Math.max(there, all - there);
       best = number;
